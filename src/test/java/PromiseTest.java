@@ -84,6 +84,15 @@ public final class PromiseTest {
         return number;
     }
 
+    /** Ten men, all ON, by turns of the pub and of the chapel. */
+    private static EndlessTug tenMen() {
+        EndlessTug x = new EndlessTug();
+        for (int i = 0; i < 10; i++) {
+            puller(x, MAN, i & 1, 8);
+        }
+        return x;
+    }
+
     /** Goes to a DAY while nobody is there, so that nothing but DAY changes. */
     private static EndlessTug onDay(int day) {
         EndlessTug x = new EndlessTug();
@@ -211,6 +220,10 @@ public final class PromiseTest {
         due("now(9)", x.now(9), 7);
         due("now(-1)", x.now(-1), BEYOND);
         due("now(10)", x.now(10), BEYOND);
+        x = tenMen();
+        due("now(7) of ten", x.now(7), 1023);
+        due("now(8) of ten", x.now(8), 40);
+        due("now(9) of ten", x.now(9), 40);
     }
 
     // ---- people
@@ -688,6 +701,10 @@ public final class PromiseTest {
         due("spell(0, 1)", x.spell(0, 1), 2);
         x.set(1, 4, 20);
         due("spell(0, 1)", x.spell(0, 1), 1);
+        x.relieve(1, 0);
+        due("spell(1, 1), by the first", x.spell(1, 1), 2);
+        x.set(0, 4, 11);
+        due("spell(1, 1), by the first", x.spell(1, 1), 0);
     }
 
     private static void kind() {
@@ -727,7 +744,25 @@ public final class PromiseTest {
         due("week(-1, 1)", x.week(-1, 1), BEYOND);
         due("week(0, 0)", x.week(0, 0), BEYOND);
         due("week(0, 101)", x.week(0, 101), BEYOND);
-        due("week(0, 100)", x.week(0, 100) >= 0 ? 1 : 0, 1);
+        for (int n = 1; n <= 100; n += 11) {
+            due("week(0, " + n + "), each week being harvest", x.week(PUB, n), bestWeek(x, n));
+        }
+    }
+
+    /** Which week, taken out of a harvest of all weeks, is best for the pub, by on(). */
+    private static int bestWeek(EndlessTug x, int n) {
+        int best = 0;
+        int least = 10000;
+        for (int week = 0; week < 8; week++) {
+            x.harvest(255 ^ 1 << week);
+            int knot = x.on(n, 0);
+            if (knot < least) {
+                least = knot;
+                best = week;
+            }
+        }
+        x.harvest(255);
+        return best;
     }
 
     private static EndlessTug onWeek(int week) {
@@ -770,6 +805,14 @@ public final class PromiseTest {
         x.turn(0, DRINKER);
         due("bears(0, 7), over a Sunday", x.bears(0, 7), NONE);
         due("bears(0, 6)", x.bears(0, 6), 65);
+        // On a Sunday the drinker lets go, and comes again only if the other one isn't less tired.
+        EndlessTug y = onDay(6);
+        puller(y, DRINKER, PUB, 8);
+        y.person(MAN, PUB);
+        y.set(1, 3, 17);
+        due("bears(0, 1), not tired at all", y.bears(0, 1), 0);
+        y.set(1, 3, 16);
+        due("bears(0, 1), not even so", y.bears(0, 1), NONE);
         due("bears(2, 1)", x.bears(2, 1), BEYOND);
         due("bears(-1, 1)", x.bears(-1, 1), BEYOND);
         due("bears(0, 0)", x.bears(0, 0), BEYOND);
@@ -897,6 +940,12 @@ public final class PromiseTest {
         dueItems("   slack    1   ;   slack    2   ", 2);
         dueItems("slack 1" + ";slack 1".repeat(14), 15);
         dueItems("plain0;harvest7;knotted", -17);
+        dueItems(" ".repeat(113) + "slack 7", 1);
+        dueItems(" ".repeat(112) + "man pub ", 1);
+        dueItems(" ".repeat(113) + "man pub", 1);
+        due("bytes that stood before", tell(x, "slack 77"), 1);
+        due("bytes that stood before", tell(x, "slack 7"), 1);
+        due("now(5)", x.now(5), 7);
     }
 
     private static void greenFaults() {
@@ -936,12 +985,19 @@ public final class PromiseTest {
         dueFault("knot 5", 5);
         dueFault("knot pub", 8);
         dueFault("knot pub 10000", 9);
+        dueFault("knot pub 99990", 9);
+        dueFault("knot pub 99999", 9);
         dueFault("knot pub 4294967296", 9);
         dueFault("knot chapel 18446744073709551616", 12);
         dueFault("knot chapel -5", 12);
         dueFault("slack", 5);
         dueFault("slack 100", 6);
         dueFault("Slack 1", 0);
+        dueFault("xlack 1", 0);
+        dueFault("slacx 1", 0);
+        dueFault("slackz 1", 0);
+        dueFault("nan pub", 0);
+        dueFault("man qub", 4);
         dueFault("slack 1.", 7);
         dueFault("slack\t1", 5);
         dueFault("slack 1\n", 7);
@@ -1047,6 +1103,8 @@ public final class PromiseTest {
         x.sheet(1, 16, 3);
         due("copy", x.copy(0, 3, 1, 1, 2), 2);
         dueRow("to another", x, 1, 0, 4, 5);
+        due("copy all", x.copy(1, 0, 0, 0, 3), 3);
+        dueRow("all", x, 0, 0, 4, 5, 4, 5);
         due("copy none", x.copy(0, 5, 1, 3, 0), 0);
         due("copy none from too far", x.copy(0, 6, 1, 3, 0), BEYOND);
         due("copy none to too far", x.copy(0, 5, 1, 4, 0), BEYOND);
@@ -1216,6 +1274,11 @@ public final class PromiseTest {
         due("count(1)", x.count(1), 4);
         due("count(2)", x.count(2), 2);
         due("count(3)", x.count(3), 116);
+        EndlessTug y = tenMen();
+        y.days(1);
+        due("count(0) of ten", y.count(0), 10);
+        due("count(2) of ten", y.count(2), 5);
+        due("count(3) of ten", y.count(3), 40);
         due("count(4)", x.count(4), BEYOND);
         due("count(-1)", x.count(-1), BEYOND);
     }
