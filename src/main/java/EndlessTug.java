@@ -945,13 +945,38 @@ public final class EndlessTug {
         }
 
         void goDay() {
-            moveKnot(pullOf(CHAPEL) - pullOf(PUB));
+            moveKnot(leadOfChapel());
+            boolean pubHolds = false;
+            boolean chapelHolds = false;
             for (int i = 0; i < size; i++) {
-                people[i].spendDay(this);
+                Person one = people[i];
+                one.spendDay(this);
+                if (one.on == 1 && one.side == PUB) {
+                    pubHolds = true;
+                } else if (one.on == 1) {
+                    chapelHolds = true;
+                }
             }
-            callOut(PUB);
-            callOut(CHAPEL);
+            if (!pubHolds) {
+                callOut(PUB);
+            }
+            if (!chapelHolds) {
+                callOut(CHAPEL);
+            }
             day++;
+        }
+
+        /** In one go over the people, as this is asked of every day that is tried. */
+        private int leadOfChapel() {
+            int lead = 0;
+            for (int i = 0; i < size; i++) {
+                Person one = people[i];
+                if (one.on == 1) {
+                    int pull = one.kind.pull(one, this);
+                    lead += one.side == CHAPEL ? pull : -pull;
+                }
+            }
+            return lead;
         }
 
         private void moveKnot(int more) {
@@ -962,22 +987,17 @@ public final class EndlessTug {
             }
         }
 
-        /** A side must not stand empty: its least tired one comes on. */
+        /** For a side that has nobody on. */
         private void callOut(int side) {
-            int least = -1;
+            Person least = null;
             for (int i = 0; i < size; i++) {
                 Person one = people[i];
-                if (one.side == side) {
-                    if (one.on == 1) {
-                        return;
-                    }
-                    if (least < 0 || one.tired < people[least].tired) {
-                        least = i;
-                    }
+                if (one.side == side && (least == null || one.tired < least.tired)) {
+                    least = one;
                 }
             }
-            if (least >= 0) {
-                people[least].on = 1;
+            if (least != null) {
+                least.on = 1;
             }
         }
 
