@@ -872,6 +872,15 @@ public final class PromiseTest {
         due("traitor(1), nothing moves", x.traitor(1), 0);
         due("traitor(61)", x.traitor(61), BEYOND);
         due("traitor(60)", x.traitor(60), 0);
+        // Those that go over leave one side to be called out, and hold the other one, or are called out there.
+        x = new EndlessTug();
+        x.slack(0);
+        puller(x, MAN, CHAPEL, 8);
+        x.person(MAN, CHAPEL);
+        x.set(1, 4, 20);
+        x.person(MAN, CHAPEL);
+        due("traitor(1), of a chapel alone", x.traitor(1), 0);
+        due("traitor(2), of a chapel alone", x.traitor(2), 1);
     }
 
     // ---- the text
