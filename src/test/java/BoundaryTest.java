@@ -532,6 +532,17 @@ public final class BoundaryTest {
         dueFault("harvest pub", 8);
         dueFault("man pub pub", 8);
         dueFault("man man", 4);
+        // Each WORD with its first, a middle or its last letter another one.
+        for (String text : new String[] {"man pub strong 5 tired 5 on", "son chapel", "drinker pub", "woman pub", "preacher pub",
+            "stranger pub", "harvest 1", "plain 1", "knot pub 1", "slack 1"}) {
+            dueText(text, 1);
+            Matcher word = Pattern.compile("[a-z]+").matcher(text);
+            while (word.find()) {
+                for (int at : new int[] {word.start(), (word.start() + word.end()) / 2, word.end() - 1}) {
+                    dueFault(text.substring(0, at) + "q" + text.substring(at + 1), word.start());
+                }
+            }
+        }
         dueFault("man #", 4);
         dueFault("#", 0);
         dueFault("man pub;" + (char) 255, 8);
