@@ -31,6 +31,7 @@ public final class LanguageTest {
         nothingElseIsSeen();
         noForbiddenWord(code);
         onlyListedImports(code);
+        onlyListedFunctions(code);
         methodsAreShort(source);
         System.out.println(wrong == 0 ? "the face and the rules hold" : wrong + " rules broken");
         if (wrong != 0) {
@@ -58,9 +59,17 @@ public final class LanguageTest {
         must(due.size() == 37, "the document's face has " + due.size() + " methods");
         must(due.equals(seen), "the face is " + seen + ", due is " + due);
         for (Method method : EndlessTug.class.getDeclaredMethods()) {
-            boolean named = due.stream().anyMatch(one -> one.contains(" " + method.getName() + "("));
-            must(!Modifier.isPrivate(method.getModifiers()) || !named, "rule 1: private " + method.getName());
+            must(!Modifier.isPrivate(method.getModifiers()) || !isNamed(due, method), "rule 1: private " + method.getName());
         }
+        for (Class<?> inside : EndlessTug.class.getDeclaredClasses()) {
+            for (Method method : inside.getDeclaredMethods()) {
+                must(!isNamed(due, method), "rule 1: " + method + " bears the name of a public one");
+            }
+        }
+    }
+
+    private static boolean isNamed(Set<String> face, Method method) {
+        return face.stream().anyMatch(one -> one.contains(" " + method.getName() + "("));
     }
 
     private static void nothingElseIsSeen() {
@@ -77,6 +86,9 @@ public final class LanguageTest {
             int is = inside.getModifiers();
             must(Modifier.isStatic(is) && !Modifier.isPublic(is) && !Modifier.isProtected(is), "rule 2: " + inside);
             must(inside.getDeclaredFields().length <= 20, "rule 11: fields of " + inside);
+            for (Field field : inside.getDeclaredFields()) {
+                must(!Modifier.isStatic(field.getModifiers()) || Modifier.isFinal(field.getModifiers()), "rule 5: " + field);
+            }
         }
     }
 
@@ -99,6 +111,14 @@ public final class LanguageTest {
         Matcher line = Pattern.compile("import (.*);").matcher(code);
         while (line.find()) {
             must(Set.of("java.util.Arrays", "java.util.ArrayList", "java.util.List").contains(line.group(1)), "rule 4: " + line.group());
+        }
+    }
+
+    private static void onlyListedFunctions(String code) {
+        Set<String> listed = Set.of("Math.min", "Math.max", "Math.abs", "Integer.bitCount", "Arrays.fill", "System.arraycopy");
+        Matcher use = Pattern.compile("(?<!java[.]util[.])\\b(Math|Integer|Long|Arrays|System|String|Character)[.]\\w+").matcher(code);
+        while (use.find()) {
+            must(listed.contains(use.group()), "rule 4: " + use.group());
         }
     }
 
